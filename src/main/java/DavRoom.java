@@ -439,8 +439,9 @@ public final class DavRoom {
         boolean isBefore(Bytes other) {
             int shared = Math.min(length, other.length);
             for (int k = 0; k < shared; k++) {
-                if (at(k) != other.at(k)) {
-                    return at(k) < other.at(k);
+                int difference = (cells[k] & 255) - (other.cells[k] & 255);
+                if (difference != 0) {
+                    return difference < 0;
                 }
             }
             return length < other.length;
@@ -520,7 +521,7 @@ public final class DavRoom {
 
         static boolean isDirectlyIn(Bytes inner, Bytes outer) {
             int n = outer.length;
-            return inner.length > n && homeLength(inner) == n && inner.beginsLike(outer, n);
+            return inner.length > n && inner.beginsLike(outer, n) && homeLength(inner) == n;
         }
 
         /** How many of its bytes are the path of the collection that it is in. */
