@@ -87,7 +87,7 @@ public final class FormTest {
         good(room, "COPY / DAV\nto: /x\nover: ", "yes", "no");
         bad(room, "COPY / DAV\nto: /x\nover: ", "y", "n", "not", "yess", "any", "0");
         good(room, "GET / DAV\nmatch: ", "any", "0", "1", "000000001", "999999999");
-        bad(room, "GET / DAV\nmatch: ", "anyx", "an", "1234567890", "0000000001", "-1", "+1", "1a", "a", "1 ", "\u00b2");
+        bad(room, "GET / DAV\nmatch: ", "anyx", "an", "1234567890", "0000000001", "-1", "+1", "1a", "a", "1 ", "1:", ":", "/", "1/", "\u00b2");
         good(room, "PUT /q/q DAV\nnone: ", "any");
         bad(room, "PUT /q/q DAV\nnone: ", "1", "an", "all");
         good(room, "MKCOL / DAV\ntoken: ", "0", "1", "999999999");
@@ -105,6 +105,8 @@ public final class FormTest {
     }
 
     private static void bad(Room room, String before, String... values) {
+        room.ask(before + "\n\n", 400);
+        room.ask(before.substring(0, before.length() - 1) + "\n\n", 400);
         for (String value : values) {
             room.ask(before + value + "\n\n", 400);
         }

@@ -91,6 +91,14 @@ public final class MethodsTest {
         room.count(4, 4);
         room.ask("DELETE /a DAV\n\n", 404);
         room.ask("PUT /a/b DAV\n\n", 409);
+        room.ask("DELETE /a- DAV\n\n", 204);
+        room.ask("MKCOL /a- DAV\n\n", 201);
+        room.ask("MKCOL /a DAV\n\n", 201);
+        room.ask("MKCOL /0 DAV\n\n", 201);
+        room.count(2, 0);
+        room.count(4, 0);
+        room.look("/a-", 1, 0);
+        room.look("/a-", 2, 0);
     }
 
     private static void list() {

@@ -112,6 +112,23 @@ public final class PowerTest {
         room.crash(1);
         room.lock(0, 0, 5);
         room.look("/f", 3, 1);
+        keptLocksStayWhereTheyWere();
+    }
+
+    private static void keptLocksStayWhereTheyWere() {
+        Room room = new Room();
+        room.ask("PUT /f DAV\n\n", 201);
+        room.ask("PUT /g DAV\n\n", 201);
+        room.ask("LOCK /f DAV\n\n", 201, "1\n");
+        room.keep(2);
+        room.ask("UNLOCK /f DAV\ntoken: 1\n\n", 204);
+        room.ask("LOCK /g DAV\n\n", 201, "2\n");
+        room.crash(2);
+        room.look("/f", 3, 1);
+        room.look("/g", 3, 0);
+        room.ask("PUT /f DAV\n\n", 423);
+        room.ask("PUT /g DAV\n\n", 204);
+        room.ask("PUT /f DAV\ntoken: 1\n\n", 204);
     }
 
     private static void whatStays() {

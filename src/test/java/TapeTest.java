@@ -59,10 +59,15 @@ public final class TapeTest {
         Room.due("end(most) of 20", room.dav.end(Integer.MAX_VALUE), Room.REFUSED);
         Room.due("end(-1) of 20", room.dav.end(-1), Room.REFUSED);
         Room.due("end(20) of 20", room.dav.end(20), 20);
+        Room.due("feed behind 20", room.dav.feed(0, 0, 0, 0, 0), 40);
         Room.due("end(1)", room.dav.end(1), 1);
         Room.due("end(2) of 1", room.dav.end(2), Room.REFUSED);
         Room.due("the first byte is left", room.dav.look(0), 2);
         Room.due("the tape is empty behind look", room.dav.end(1), Room.REFUSED);
+        room.dav.feed(1, 2, 3, 4, 5);
+        Room.due("end(0) of 20", room.dav.end(0), 0);
+        Room.due("end(1) of none", room.dav.end(1), Room.REFUSED);
+        Room.due("feed behind end(0)", room.dav.feed(1, 2, 3, 4, 5), 20);
     }
 
     private static void octet() {

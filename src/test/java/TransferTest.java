@@ -89,6 +89,22 @@ public final class TransferTest {
         transfer(room, verb, "/d", "/1/2/5", 201);
         room.look("/1/2/5/c/z", 2, 3);
         transfer(room, verb, "/f", "/1/2/3/4/5", 201);
+        longest(verb);
+    }
+
+    private static void longest(String verb) {
+        Room room = filled();
+        String path = "";
+        for (int k = 0; k < 4; k++) {
+            path += "/abcdefgh";
+            room.ask("MKCOL " + path + " DAV\n\n", 201);
+        }
+        room.ask("MKCOL /s DAV\n\n", 201);
+        room.ask("PUT /s/ijklmnop DAV\n\nend", 201);
+        transfer(room, verb, "/s", path, 204);
+        room.ask("GET " + path + "/ijklmnop DAV\n\n", 200, "end");
+        transfer(room, verb, "/f", path + "/fedcba98", 201);
+        room.ask("LIST " + path + " DAV\n\n", 207, path + "\n" + path + "/fedcba98\n" + path + "/ijklmnop\n");
     }
 
     private static void over(String verb) {
@@ -186,6 +202,12 @@ public final class TransferTest {
         room.ask("DELETE /n36 DAV\n\n", 204);
         transfer(room, "COPY", "/d", "/e", 201);
         room.count(1, 40);
+        room.ask("DELETE /n35 DAV\n\n", 204);
+        transfer(room, "COPY", "/d/c", "/g", 507);
+        room.ask("COPY /d/c DAV\nto: /g\ndepth: 0\n\n", 201);
+        room.count(1, 40);
+        room.ask("DELETE /g DAV\n\n", 204);
+        transfer(room, "COPY", "/f", "/n35", 201);
         transfer(room, "COPY", "/f", "/g", 507);
         room.ask("COPY /f DAV\nto: /e\nover: no\n\n", 412);
         room.ask("COPY /f DAV\nto: /q/e\n\n", 409);
