@@ -4,7 +4,13 @@ import java.util.TreeMap;
 
 /** Long runs of made-up calls, each answer and the state behind it held against the Model's. */
 public final class ModelTest {
-    private static final int RUNS = 1500, CALLS = 200;
+    private static final int RUNS = 6000;
+
+    /** The dearest step, with a LIST of 400 bytes, and the dearest look behind the run. */
+    private static final int CALLS_OF_A_STEP = 60, CALLS_BEHIND = 110, CALLS_OF_A_LOOK = 6;
+
+    /** So many bytes of a longer OUT are held against the Model's. */
+    private static final int MOST_OCTETS = 20;
     private static final String[] VERBS = {"GET", "PUT", "PUT", "PUT", "MKCOL", "MKCOL", "DELETE", "COPY", "COPY", "MOVE", "LOCK", "LOCK", "UNLOCK", "LIST"};
     private static final String[] SEGMENTS = {"a", "a-", "a.", "ab", "b", "b0", "-", "a..", "longname"};
     private static final String[] HEADERS = {"depth: 0\n", "depth: 1\n", "depth: all\n", "over: no\n", "over: yes\n",
@@ -44,8 +50,26 @@ public final class ModelTest {
         return (int) ((state >>> 33) % below);
     }
 
+    /** Most of the 40 places, and of the 10 locks, are taken at once: a run is too short to come there step by step. */
+    private void fill() {
+        check("MKCOL /a DAV\n\n");
+        for (int k = pick(3); k < 8; k++) {
+            check("PUT /a/f" + k + " DAV\n\nxyz");
+        }
+        for (String to : new String[] {"/a-", "/b", "/a/b"}) {
+            check("COPY /a DAV\nto: " + to + "\n\n");
+            check("COPY /a DAV\nto: " + to + "/0\n\n");
+        }
+        for (int k = pick(20); k < 10; k++) {
+            check("LOCK " + path(false) + " DAV\nsort: many\ndepth: 0\n\n");
+        }
+    }
+
     private void run() {
-        for (int k = 0; k < CALLS; k++) {
+        if (grows) {
+            fill();
+        }
+        while (room.callsLeft() > CALLS_OF_A_STEP + CALLS_BEHIND) {
             step();
         }
         for (int k = 0; k < 11; k++) {
@@ -53,10 +77,11 @@ public final class ModelTest {
                 room.lock(k, what, model.lock(k, what));
             }
         }
-        for (String path : model.paths()) {
-            for (int what = 0; what < 4; what++) {
-                room.look(path, what, model.look(path, what));
-            }
+        List<String> paths = model.paths();
+        while (room.callsLeft() > CALLS_OF_A_LOOK) {
+            String path = paths.get(pick(paths.size()));
+            int what = pick(4);
+            room.look(path, what, model.look(path, what));
         }
     }
 
@@ -76,9 +101,8 @@ public final class ModelTest {
         } else {
             request();
         }
-        for (int what = 0; what < 5; what++) {
-            room.count(what, model.count(what));
-        }
+        int what = pick(5);
+        room.count(what, model.count(what));
     }
 
     private void request() {
@@ -116,7 +140,12 @@ public final class ModelTest {
     private void check(String text) {
         int want = model.request(text);
         seen.merge(want, 1, Integer::sum);
-        room.ask(text, want, model.out);
+        room.ask(text, want);
+        room.octet(-1, model.out.length());
+        int first = model.out.length() <= MOST_OCTETS ? 0 : pick(model.out.length() - MOST_OCTETS + 1);
+        for (int k = first; k < model.out.length() && k < first + MOST_OCTETS; k++) {
+            room.octet(k, model.out.charAt(k));
+        }
     }
 
     private String spoilt(StringBuilder text) {

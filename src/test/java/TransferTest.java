@@ -3,20 +3,28 @@ public final class TransferTest {
     public static void main(String[] args) {
         for (String verb : new String[] {"COPY", "MOVE"}) {
             missing(verb);
-            forbidden(verb);
-            noHome(verb);
-            tooDeep(verb);
-            over(verb);
+            toRoot(verb);
+            toItself(verb);
+            oneInTheOther(verb);
+            toTheLikeNamed(verb);
+            noCollectionForTo(verb);
+            overNo(verb);
+            overYes(verb);
+            newAndOld(verb);
+            fileOverCollection(verb);
+            collectionOverFile(verb);
+            whereItIs(verb);
         }
-        copyFile();
-        copyAll();
-        copyDepthZero();
-        copyOrderOfVersions();
-        copyNoRoom();
-        copyOverMakesRoom();
-        moveFile();
-        moveAll();
-        moveWhenFull();
+        copyLeavesTheSource();
+        copyOfAll();
+        copyOfDepthZero();
+        copyGivesVersions();
+        copyGivesVersionsByRisingPaths();
+        copyIsApart();
+        moveTakesTheSource();
+        moveOfAll();
+        moveKeepsVersions();
+        moveOverGivesNoVersions();
         Room.finish();
     }
 
@@ -35,232 +43,232 @@ public final class TransferTest {
         room.ask(verb + " " + from + " DAV\nto: " + to + "\n\n", want, "");
     }
 
-    private static void tree(Room room, String want) {
-        room.ask("LIST / DAV\ndepth: all\n\n", 207, want.replace(' ', '\n') + "\n");
+    private static void refuses(String verb, int want, String... fromAndTo) {
+        for (int k = 0; k + 1 < fromAndTo.length; k += 2) {
+            filled().refuses(verb + " " + fromAndTo[k] + " DAV\nto: " + fromAndTo[k + 1] + "\n\n", want);
+        }
     }
 
     private static void missing(String verb) {
-        Room room = filled();
-        transfer(room, verb, "/q", "/", 404);
-        transfer(room, verb, "/q", "/q", 404);
-        transfer(room, verb, "/q", "/x/y", 404);
-        transfer(room, verb, "/f/q", "/x", 404);
+        Room.about(verb + ", 404 without it");
+        refuses(verb, 404, "/q", "/", "/q", "/q", "/q", "/x/y", "/f/q", "/x", "/d/q", "/x", "/q", "/f");
+        transfer(filled(), verb, "/f", "/x", 201);
     }
 
-    private static void forbidden(String verb) {
-        Room room = filled();
-        transfer(room, verb, "/", "/", 403);
-        transfer(room, verb, "/", "/x", 403);
-        transfer(room, verb, "/", "/x/y", 403);
-        transfer(room, verb, "/d", "/", 403);
-        transfer(room, verb, "/d", "/d", 403);
-        transfer(room, verb, "/d", "/d/q", 403);
-        transfer(room, verb, "/d", "/d/q/r/s/t", 403);
-        transfer(room, verb, "/d", "/d/a/b", 403);
-        transfer(room, verb, "/d/a", "/d", 403);
-        transfer(room, verb, "/d/c/z", "/d", 403);
-        transfer(room, verb, "/f", "/f", 403);
-        transfer(room, verb, "/f", "/f/g", 403);
-        tree(room, "/ /d /d/a /d/c /d/c/z /f");
-        transfer(room, verb, "/d", "/d-", 201);
+    private static void toRoot(String verb) {
+        Room.about(verb + ", 403 if to is \"/\"");
+        refuses(verb, 403, "/", "/", "/d", "/", "/f", "/", "/d/c/z", "/");
     }
 
-    private static void noHome(String verb) {
-        Room room = filled();
-        transfer(room, verb, "/f", "/x/y", 409);
-        transfer(room, verb, "/d/a", "/f/y", 409);
-        room.ask(verb + " /d DAV\nto: /x/y\nover: no\n\n", 409);
-        tree(room, "/ /d /d/a /d/c /d/c/z /f");
+    private static void toItself(String verb) {
+        Room.about(verb + ", 403 if to is it itself");
+        refuses(verb, 403, "/d", "/d", "/f", "/f", "/d/c", "/d/c", "/d/c/z", "/d/c/z");
     }
 
-    private static void tooDeep(String verb) {
-        Room room = filled();
-        for (String path : new String[] {"/1", "/1/2", "/1/2/3", "/1/2/3/4", "/1/2/3/x"}) {
-            room.ask("MKCOL " + path + " DAV\n\n", 201);
+    private static void oneInTheOther(String verb) {
+        Room.about(verb + ", 403 if one of them is in the other");
+        refuses(verb, 403, "/", "/x", "/", "/x/y", "/", "/f", "/d", "/d/q", "/d", "/d/q/r/s/t", "/d", "/d/a", "/d", "/d/a/b", "/d", "/d/c/z");
+        refuses(verb, 403, "/d/a", "/d", "/d/c/z", "/d", "/d/c", "/d", "/f", "/f/g");
+    }
+
+    private static void toTheLikeNamed(String verb) {
+        Room.about(verb + ", what has its name as a beginning is not in it");
+        transfer(filled(), verb, "/d", "/d-", 201);
+        transfer(filled(), verb, "/d", "/dd", 201);
+        transfer(filled(), verb, "/d/c", "/d/c0", 201);
+        Room room = filled().with("/dd/");
+        transfer(room, verb, "/dd", "/d", 204);
+        transfer(filled().with("/d.d"), verb, "/d.d", "/d", 204);
+    }
+
+    private static void noCollectionForTo(String verb) {
+        Room.about(verb + ", 409 if the COLLECTION for to is not there");
+        refuses(verb, 409, "/f", "/x/y", "/d/a", "/f/y", "/d", "/x/y", "/f", "/d/c/q/y", "/f", "/d/a/y");
+        transfer(filled(), verb, "/f", "/d/c/y", 201);
+    }
+
+    private static void overNo(String verb) {
+        Room.about(verb + ", 412 if there is a resource at to and over is no");
+        filled().refuses(verb + " /f DAV\nto: /d\nover: no\n\n", 412);
+        filled().refuses(verb + " /d DAV\nto: /f\nover: no\n\n", 412);
+        filled().refuses(verb + " /f DAV\nto: /d/a\nover: no\n\n", 412);
+        filled().ask(verb + " /f DAV\nto: /g\nover: no\n\n", 201);
+        filled().ask(verb + " /d DAV\nto: /g\nover: no\n\n", 201);
+    }
+
+    private static void overYes(String verb) {
+        Room.about(verb + ", over is yes, or there is no over");
+        for (String over : new String[] {"over: yes\n", ""}) {
+            filled().ask(verb + " /f DAV\nto: /d\n" + over + "\n", 204);
+            filled().ask(verb + " /f DAV\nto: /d/a\n" + over + "\n", 204);
+            filled().ask(verb + " /f DAV\nto: /g\n" + over + "\n", 201);
         }
-        room.count(1, 10);
-        transfer(room, verb, "/d", "/1/2/3/4/5", 409);
-        transfer(room, verb, "/d", "/1/2/3/5", 409);
-        room.ask(verb + " /d DAV\nto: /1/2/3/x\nover: no\n\n", 409);
-        room.ask("LOCK /1 DAV\n\n", 201);
-        transfer(room, verb, "/d", "/1/2/3/5", 409);
-        room.ask("UNLOCK /1 DAV\ntoken: 1\n\n", 204);
-        room.count(1, 10);
-        transfer(room, verb, "/d", "/1/2/5", 201);
-        room.look("/1/2/5/c/z", 2, 3);
-        transfer(room, verb, "/f", "/1/2/3/4/5", 201);
-        longest(verb);
     }
 
-    private static void longest(String verb) {
+    private static void newAndOld(String verb) {
+        Room.about(verb + ", 201 if to was none, else 204");
         Room room = filled();
-        String path = "";
-        for (int k = 0; k < 4; k++) {
-            path += "/abcdefgh";
-            room.ask("MKCOL " + path + " DAV\n\n", 201);
-        }
-        room.ask("MKCOL /s DAV\n\n", 201);
-        room.ask("PUT /s/ijklmnop DAV\n\nend", 201);
-        transfer(room, verb, "/s", path, 204);
-        room.ask("GET " + path + "/ijklmnop DAV\n\n", 200, "end");
-        transfer(room, verb, "/f", path + "/fedcba98", 201);
-        room.ask("LIST " + path + " DAV\n\n", 207, path + "\n" + path + "/fedcba98\n" + path + "/ijklmnop\n");
+        transfer(room, verb, "/d/a", "/g", 201);
+        room.ask("GET /g DAV\n\n", 200, "aa");
+        transfer(room, verb, "/f", "/g", 204);
+        room.ask("GET /g DAV\n\n", 200, "f");
     }
 
-    private static void over(String verb) {
+    private static void fileOverCollection(String verb) {
+        Room.about(verb + ", what is at to goes, and all in it");
         Room room = filled();
-        room.ask(verb + " /f DAV\nto: /d\nover: no\n\n", 412);
-        room.ask(verb + " /f DAV\nto: /g\nover: no\n\n", 201);
-        room.look("/d", 2, 3);
-        room.ask(verb + " /g DAV\nto: /d\nover: yes\n\n", 204);
+        transfer(room, verb, "/f", "/d", 204);
+        room.has(verb.equals("COPY") ? "/ /d /f" : "/ /d");
         room.look("/d", 0, 1);
-        room.look("/d/c/z", 0, Room.NONE);
-        room.ask("PUT /h DAV\n\n", 201);
-        transfer(room, verb, "/h", "/d", 204);
-        room.look("/d", 2, 0);
+        room.ask("GET /d DAV\n\n", 200, "f");
+        room.count(4, verb.equals("COPY") ? 2 : 1);
     }
 
-    private static void copyFile() {
+    private static void collectionOverFile(String verb) {
+        Room.about(verb + ", a COLLECTION where a FILE was");
+        Room room = filled();
+        transfer(room, verb, "/d", "/f", 204);
+        room.has(verb.equals("COPY") ? "/ /d /d/a /d/c /d/c/z /f /f/a /f/c /f/c/z" : "/ /f /f/a /f/c /f/c/z");
+        room.look("/f", 0, 2);
+        room.look("/f", 1, 0);
+        room.look("/f", 2, 3);
+        room.ask("GET /f DAV\n\n", 200, "a\nc\n");
+    }
+
+    private static void whereItIs(String verb) {
+        Room.about(verb + " within one COLLECTION");
+        Room room = filled();
+        transfer(room, verb, "/d/a", "/d/0", 201);
+        transfer(room, verb, "/d/0", "/d/c", 204);
+        room.has(verb.equals("COPY") ? "/ /d /d/0 /d/a /d/c /f" : "/ /d /d/c /f");
+        room.ask("GET /d/c DAV\n\n", 200, "aa");
+    }
+
+    private static void copyLeavesTheSource() {
+        Room.about("COPY, what is copied stays as it is");
         Room room = filled();
         transfer(room, "COPY", "/f", "/g", 201);
         room.look("/f", 1, 3);
-        room.look("/g", 1, 4);
-        room.ask("GET /g DAV\n\n", 200, "f");
-        transfer(room, "COPY", "/d/a", "/g", 204);
-        room.look("/g", 1, 5);
-        room.ask("GET /g DAV\n\n", 200, "aa");
-        room.ask("PUT /d/a DAV\n\nother", 204);
-        room.ask("GET /g DAV\n\n", 200, "aa");
-        room.ask("COPY /d/a DAV\nto: /g\ndepth: 0\n\n", 204);
-        room.ask("GET /g DAV\n\n", 200, "other");
-    }
-
-    private static void copyAll() {
-        Room room = filled();
+        room.ask("GET /f DAV\n\n", 200, "f");
         transfer(room, "COPY", "/d", "/e", 201);
-        tree(room, "/ /d /d/a /d/c /d/c/z /e /e/a /e/c /e/c/z /f");
-        room.look("/e", 1, 0);
-        room.look("/e/a", 1, 4);
-        room.look("/e/c/z", 1, 5);
+        room.look("/d", 2, 3);
+        room.look("/d/a", 1, 1);
         room.look("/d/c/z", 1, 2);
-        room.ask("GET /e/c/z DAV\n\n", 200, "zzz");
-        room.count(4, 11);
-        room.ask("PUT /e/q DAV\n\n", 201);
-        room.ask("COPY /d DAV\nto: /e\ndepth: all\n\n", 204);
-        tree(room, "/ /d /d/a /d/c /d/c/z /e /e/a /e/c /e/c/z /f");
-        transfer(room, "COPY", "/d", "/f", 204);
-        tree(room, "/ /d /d/a /d/c /d/c/z /e /e/a /e/c /e/c/z /f /f/a /f/c /f/c/z");
-        transfer(room, "COPY", "/e/a", "/d/c", 204);
-        tree(room, "/ /d /d/a /d/c /e /e/a /e/c /e/c/z /f /f/a /f/c /f/c/z");
+        room.count(4, 12);
     }
 
-    private static void copyDepthZero() {
+    private static void copyOfAll() {
+        Room.about("COPY, it comes there, and all in it");
+        for (String depth : new String[] {"", "depth: all\n"}) {
+            Room room = filled();
+            room.ask("COPY /d DAV\nto: /e\n" + depth + "\n", 201);
+            room.has("/ /d /d/a /d/c /d/c/z /e /e/a /e/c /e/c/z /f");
+            room.ask("GET /e/c/z DAV\n\n", 200, "zzz");
+            room.ask("PUT /e/q DAV\n\n", 201);
+            room.ask("COPY /d DAV\nto: /e\n" + depth + "\n", 204);
+            room.has("/ /d /d/a /d/c /d/c/z /e /e/a /e/c /e/c/z /f");
+        }
+    }
+
+    private static void copyOfDepthZero() {
+        Room.about("COPY, depth 0: not what is in it");
         Room room = filled();
         room.ask("COPY /d DAV\nto: /e\ndepth: 0\n\n", 201);
-        tree(room, "/ /d /d/a /d/c /d/c/z /e /f");
+        room.has("/ /d /d/a /d/c /d/c/z /e /f");
         room.look("/e", 0, 2);
         room.ask("COPY /e DAV\nto: /d\ndepth: 0\n\n", 204);
-        tree(room, "/ /d /e /f");
-        for (String path : new String[] {"/e/e", "/e/e/e", "/e/e/e/e"}) {
-            room.ask("MKCOL " + path + " DAV\n\n", 201);
-        }
-        room.ask("MKCOL /d/x DAV\n\n", 201);
-        room.ask("COPY /d DAV\nto: /e/e/e/e/e\n\n", 409);
-        room.ask("COPY /d DAV\nto: /e/e/e/e/e\ndepth: 0\n\n", 201);
+        room.has("/ /d /e /f");
+        room.ask("COPY /f DAV\nto: /d\ndepth: 0\n\n", 204);
+        room.ask("GET /d DAV\n\n", 200, "f");
+        room.look("/d", 1, 4);
     }
 
-    private static void copyOrderOfVersions() {
-        Room room = new Room();
-        room.ask("MKCOL /s DAV\n\n", 201);
-        room.ask("MKCOL /s/a DAV\n\n", 201);
-        for (String path : new String[] {"/s/b", "/s/a/x", "/s/a0", "/s/a-", "/s/a.", "/s/a/x-"}) {
-            room.ask("PUT " + path + " DAV\n\n", 201);
-        }
+    private static void copyGivesVersions() {
+        Room.about("COPY, files are given VERSIONS");
+        Room room = filled();
+        transfer(room, "COPY", "/f", "/g", 201);
+        room.look("/g", 1, 4);
+        transfer(room, "COPY", "/f", "/g", 204);
+        room.look("/g", 1, 5);
+        transfer(room, "COPY", "/d", "/e", 201);
+        room.look("/e", 1, 0);
+        room.look("/e/a", 1, 6);
+        room.look("/e/c", 1, 0);
+        room.look("/e/c/z", 1, 7);
+        room.ask("COPY /d DAV\nto: /n\ndepth: 0\n\n", 201);
+        room.with("/m");
+        room.look("/m", 1, 8);
+    }
+
+    private static void copyGivesVersionsByRisingPaths() {
+        Room.about("COPY, VERSIONS by rising bytes of paths");
+        Room room = new Room().with("/s/", "/s/a/", "/s/b", "/s/a/x", "/s/a0", "/s/a-", "/s/a.", "/s/a/x-");
         transfer(room, "COPY", "/s", "/t", 201);
         String[] rising = {"/t/a-", "/t/a.", "/t/a/x", "/t/a/x-", "/t/a0", "/t/b"};
         for (int k = 0; k < rising.length; k++) {
             room.look(rising[k], 1, 7 + k);
         }
+        transfer(room, "COPY", "/t", "/0", 201);
+        room.look("/0/a-", 1, 13);
+        room.look("/0/a/x", 1, 15);
+        room.look("/0/b", 1, 18);
     }
 
-    private static void fill(Room room, int until) {
-        for (int k = room.dav.count(1); k < until; k++) {
-            room.ask("PUT /n" + k + " DAV\n\n", 201);
-        }
-    }
-
-    private static void copyNoRoom() {
+    private static void copyIsApart() {
+        Room.about("COPY, the two are apart");
         Room room = filled();
-        fill(room, 37);
-        transfer(room, "COPY", "/d", "/e", 507);
-        room.count(1, 37);
-        room.look("/e", 0, Room.NONE);
-        room.ask("COPY /d DAV\nto: /e\ndepth: 0\n\n", 201);
-        room.count(1, 38);
-        transfer(room, "COPY", "/d", "/e", 507);
-        room.ask("DELETE /e DAV\n\n", 204);
-        room.ask("DELETE /n36 DAV\n\n", 204);
-        transfer(room, "COPY", "/d", "/e", 201);
-        room.count(1, 40);
-        room.ask("DELETE /n35 DAV\n\n", 204);
-        transfer(room, "COPY", "/d/c", "/g", 507);
-        room.ask("COPY /d/c DAV\nto: /g\ndepth: 0\n\n", 201);
-        room.count(1, 40);
-        room.ask("DELETE /g DAV\n\n", 204);
-        transfer(room, "COPY", "/f", "/n35", 201);
-        transfer(room, "COPY", "/f", "/g", 507);
-        room.ask("COPY /f DAV\nto: /e\nover: no\n\n", 412);
-        room.ask("COPY /f DAV\nto: /q/e\n\n", 409);
+        transfer(room, "COPY", "/d/a", "/g", 201);
+        room.ask("PUT /d/a DAV\n\nother", 204);
+        room.ask("GET /g DAV\n\n", 200, "aa");
+        room.ask("PUT /g DAV\n\nthird", 204);
+        room.ask("GET /d/a DAV\n\n", 200, "other");
+        room.ask("DELETE /d DAV\n\n", 204);
+        room.ask("GET /g DAV\n\n", 200, "third");
     }
 
-    private static void copyOverMakesRoom() {
-        Room room = filled();
-        fill(room, 40);
-        transfer(room, "COPY", "/d", "/f", 507);
-        room.look("/f", 1, 3);
-        transfer(room, "COPY", "/f", "/d", 204);
-        room.count(1, 37);
-        fill(room, 37);
-        transfer(room, "COPY", "/n5", "/d", 204);
-        room.count(1, 37);
-    }
-
-    private static void moveFile() {
+    private static void moveTakesTheSource() {
+        Room.about("MOVE, what moves is no longer where it was");
         Room room = filled();
         transfer(room, "MOVE", "/f", "/d/f", 201);
         room.look("/f", 0, Room.NONE);
-        room.look("/d/f", 1, 3);
         room.ask("GET /d/f DAV\n\n", 200, "f");
-        transfer(room, "MOVE", "/d/f", "/d/a", 204);
-        room.look("/d/a", 1, 3);
-        room.ask("PUT /new DAV\n\n", 201);
-        room.look("/new", 1, 4);
+        room.has("/ /d /d/a /d/c /d/c/z /d/f");
+        transfer(room, "MOVE", "/f", "/g", 404);
     }
 
-    private static void moveAll() {
+    private static void moveOfAll() {
+        Room.about("MOVE, as COPY of all");
         Room room = filled();
         transfer(room, "MOVE", "/d", "/0", 201);
-        tree(room, "/ /0 /0/a /0/c /0/c/z /f");
-        room.look("/0/c/z", 1, 2);
+        room.has("/ /0 /0/a /0/c /0/c/z /f");
         room.ask("GET /0/c/z DAV\n\n", 200, "zzz");
         transfer(room, "MOVE", "/0", "/longname", 201);
-        tree(room, "/ /f /longname /longname/a /longname/c /longname/c/z");
+        room.has("/ /f /longname /longname/a /longname/c /longname/c/z");
         transfer(room, "MOVE", "/longname/c", "/f", 204);
-        tree(room, "/ /f /f/z /longname /longname/a");
-        room.look("/f/z", 1, 2);
+        room.has("/ /f /f/z /longname /longname/a");
         transfer(room, "MOVE", "/f/z", "/longname", 204);
-        tree(room, "/ /f /longname");
+        room.has("/ /f /longname");
         room.count(2, 1);
         room.count(4, 3);
     }
 
-    private static void moveWhenFull() {
+    private static void moveKeepsVersions() {
+        Room.about("MOVE, VERSIONS stay (of what moves)");
         Room room = filled();
-        fill(room, 40);
-        transfer(room, "MOVE", "/d", "/e", 201);
-        room.count(1, 40);
-        room.look("/e", 2, 3);
-        transfer(room, "MOVE", "/e", "/f", 204);
-        room.count(1, 39);
+        transfer(room, "MOVE", "/d", "/0", 201);
+        room.look("/0/a", 1, 1);
+        room.look("/0/c/z", 1, 2);
+        transfer(room, "MOVE", "/0/c/z", "/f", 204);
+        room.look("/f", 1, 2);
+        room.ask("GET /f DAV\nmatch: 2\n\n", 200, "zzz");
+    }
+
+    private static void moveOverGivesNoVersions() {
+        Room.about("MOVE gives no VERSION");
+        Room room = filled();
+        transfer(room, "MOVE", "/d/a", "/f", 204);
+        transfer(room, "MOVE", "/f", "/g", 201);
+        room.with("/new");
+        room.look("/new", 1, 4);
     }
 }
