@@ -2,12 +2,11 @@ import java.lang.reflect.Field;
 import java.lang.reflect.Member;
 import java.lang.reflect.Method;
 import java.lang.reflect.Modifier;
-import java.util.ArrayList;
 import java.util.Arrays;
 import java.util.List;
 import java.util.TreeSet;
 
-/** The public face: word for word the document's, and nothing else to be seen; rules 1, 2 and 11 of LANGUAGE.md. */
+/** The public face: word for word the document's, and nothing else to be seen; rule 1 of LANGUAGE.md. */
 public final class FaceTest {
     public static void main(String[] args) {
         Room.due("REFUSED", DavRoom.REFUSED, -1);
@@ -20,7 +19,6 @@ public final class FaceTest {
                 "int REFUSED", "int NONE", "int FULL",
                 "int feed[int, int, int, int, int]", "int end[int]", "int request[]", "int octet[int]", "int tick[int]",
                 "int keep[]", "int crash[]", "int look[int]", "int lock[int, int]", "int count[int]")).toString());
-        nestedClasses();
         Room.finish();
     }
 
@@ -41,24 +39,5 @@ public final class FaceTest {
 
     private static boolean isSeen(Member one) {
         return !Modifier.isPrivate(one.getModifiers()) && !one.isSynthetic();
-    }
-
-    private static void nestedClasses() {
-        List<String> open = new ArrayList<>();
-        for (Method one : DavRoom.class.getDeclaredMethods()) {
-            if (isSeen(one)) {
-                open.add(one.getName());
-            }
-        }
-        Class<?>[] nested = DavRoom.class.getDeclaredClasses();
-        Room.due("at most twelve classes", nested.length <= 11 ? 1 : 0, 1);
-        for (Class<?> one : nested) {
-            Room.due(one + " is static", Modifier.isStatic(one.getModifiers()) ? 1 : 0, 1);
-            Room.due(one + " is not public", Modifier.isPublic(one.getModifiers()) ? 1 : 0, 0);
-            for (Method method : one.getDeclaredMethods()) {
-                Room.due(method + " bears no public name", open.contains(method.getName()) ? 1 : 0, 0);
-                Room.due(method + " takes at most seven", method.getParameterCount() <= 7 ? 1 : 0, 1);
-            }
-        }
     }
 }
