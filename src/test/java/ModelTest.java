@@ -103,6 +103,7 @@ public final class ModelTest {
         }
         int what = pick(5);
         room.count(what, model.count(what));
+        room.octet(-1, model.out.length());
     }
 
     private void request() {

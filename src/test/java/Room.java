@@ -145,7 +145,7 @@ final class Room {
         return text.toString();
     }
 
-    /** All paths with their versions, and all locks with their ends; OUT is another one afterwards. */
+    /** All paths with their versions, and all that is told of the locks; OUT is another one afterwards. */
     String state() {
         status("LIST / DAV\ndepth: all\n\n");
         StringBuilder told = new StringBuilder();
@@ -153,8 +153,11 @@ final class Room {
             tape(path);
             told.append(path).append(" of version ").append(used().look(1)).append('\n');
         }
-        for (int k = 0; k < used().count(3); k++) {
-            told.append("lock ").append(used().lock(k, 0)).append(" until ").append(used().lock(k, 1)).append('\n');
+        int locks = count(3);
+        for (int k = 0; k < locks; k++) {
+            told.append("lock ").append(used().lock(k, 0)).append(" until ").append(used().lock(k, 1));
+            told.append(used().lock(k, 2) == 1 ? " deep" : "").append(used().lock(k, 3) == 1 ? " of one" : " of many");
+            told.append(" over ").append(used().lock(k, 4)).append('\n');
         }
         return told.append(used().count(4)).append(" bytes").toString();
     }
